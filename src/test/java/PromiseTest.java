@@ -119,6 +119,7 @@ public final class PromiseTest {
         promise58OutputChar();
         promises59And60Undo();
         promise60EachCall();
+        promises60And62FullLog();
         promises61And62Save();
     }
 
@@ -256,6 +257,11 @@ public final class PromiseTest {
         ShareVault unsealed = withHolders(1);
         Check.refused("6 not sealed", unsealed, 3, 0, () -> unsealed.takeBack(0));
         Check.throwsOnly("6 holder first", unsealed, Check.INDEX, () -> unsealed.takeBack(1));
+        ShareVault all = sealed(8, 1, 8);
+        Check.due("6 last of eight", all.takeBack(7), 7);
+        all.present(7);
+        Check.due("6 first of eight", all.takeBack(0), 7);
+        Check.due("6 moves up", all.presentedAt(0) * 10 + all.presentedAt(6), 17);
         ShareVault open = opened(3, 1, 1);
         Check.due("6 while open", open.takeBack(0), 0);
         Check.due("6 stays open", open.isOpen(), true);
@@ -1085,13 +1091,40 @@ public final class PromiseTest {
         ShareVault vault = guarded(4, 2, 2);
         vault.hum(4, 9);
         vault.passHours(1);
-        vault.undo();
         int calls = vault.undoCount();
         String before = Check.stateOf(vault);
         step.take(vault);
         Check.due("60 " + what + " is recorded", vault.undoCount(), Math.min(calls + 1, 8));
         Check.due("60 " + what + " counts down", vault.undo(), Math.min(calls, 7));
         Check.due("60 " + what, Check.stateOf(vault), before.replaceAll("undo \\d", "undo " + vault.undoCount()));
+    }
+
+    /** With a full log, a new entry moves all others, so that each of them has to come back. */
+    private static void promises60And62FullLog() {
+        ShareVault vault = opened(3, 2, 2);
+        for (int hours = 1; hours < 12; hours++) {
+            raiseAlarm(vault, hours);
+        }
+        Check.due("60 full log", vault.logCount(), 12);
+        String full = Check.logOf(vault);
+        vault.save();
+        vault.closeVault();
+        Check.due("60 oldest goes", Check.logOf(vault), full.substring(4) + " 66c0");
+        vault.undo();
+        Check.due("60 full log comes back", Check.logOf(vault), full);
+        vault.closeVault();
+        for (int hours = 0; hours < 13; hours++) {
+            raiseAlarm(vault, 3);
+        }
+        vault.restore();
+        Check.due("62 full log comes back", Check.logOf(vault), full);
+        Check.due("62 openings come back", vault.openingCount(), 1);
+    }
+
+    private static void raiseAlarm(ShareVault vault, int hours) {
+        // The guard must be neither there nor beside it, also if it walks in this hour.
+        vault.hum((vault.zoneOf(0) + 4) % 8, 9);
+        vault.passHours(hours);
     }
 
     private static void promises61And62Save() {
