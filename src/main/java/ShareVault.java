@@ -660,14 +660,14 @@ public final class ShareVault {
         }
 
         private int quotientsOf(int[] holders, int term, int position) {
-            int own = positionOf(holders[term]);
+            // Positions differ by as much as the indices do, so indices are subtracted.
+            int index = position - 1;
             int above = 1;
             int below = 1;
             for (int other = 0; other < threshold; other++) {
                 if (other != term) {
-                    int root = positionOf(holders[other]);
-                    above = above * (position - root + MODULUS) % MODULUS;
-                    below = below * (own - root + MODULUS) % MODULUS;
+                    above = above * (index - holders[other] + MODULUS) % MODULUS;
+                    below = below * (holders[term] - holders[other] + MODULUS) % MODULUS;
                 }
             }
             return above * INVERSES[below] % MODULUS;
@@ -986,7 +986,7 @@ public final class ShareVault {
 
     /**
      * All that can be undone and saved. Each try method returns a verdict; if that is FINE, the change
-     * is made and its number is in answer, otherwise nothing has changed.
+     * is made and its number is in answer, otherwise nothing has changed (but by a FAILED_ATTEMPT).
      */
     private static final class State {
         final Keys keys = new Keys();
