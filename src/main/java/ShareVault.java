@@ -1316,8 +1316,8 @@ public final class ShareVault {
         int parse() {
             at = 0;
             count = 0;
-            // Each command has four letters or more, so the bound is never met.
-            while (count < MAX_COMMANDS && readCommand()) {
+            // Each command has four characters or more, so the text ends before the rows are full.
+            for (int command = 0; command < MAX_COMMANDS && readCommand(); command++) {
                 if (peek() == END) {
                     return NONE;
                 }

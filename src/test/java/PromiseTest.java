@@ -18,45 +18,6 @@ public final class PromiseTest {
         Check.end();
     }
 
-    private static ShareVault withHolders(int count) {
-        ShareVault vault = new ShareVault();
-        for (int holder = 0; holder < count; holder++) {
-            vault.addHolder();
-        }
-        return vault;
-    }
-
-    /** Sealed with 42 + 5x + 7xx: the shares are 54, 80, 23, 77, 48 .. ; guarded in the zone 0. */
-    private static ShareVault sealed(int holders, int threshold, int presented) {
-        ShareVault vault = withHolders(holders);
-        vault.seal(42, 5, 7, threshold);
-        for (int holder = 0; holder < presented; holder++) {
-            vault.present(holder);
-        }
-        return vault;
-    }
-
-    private static ShareVault guarded(int holders, int threshold, int presented) {
-        ShareVault vault = sealed(holders, threshold, presented);
-        vault.addGuard(0, true, 4);
-        return vault;
-    }
-
-    private static ShareVault opened(int holders, int threshold, int presented) {
-        ShareVault vault = guarded(holders, threshold, presented);
-        Check.due("opened", vault.openVault(), true);
-        return vault;
-    }
-
-    private static ShareVault locked() {
-        ShareVault vault = guarded(1, 1, 1);
-        vault.setShare(0, 0);
-        for (int attempt = 0; attempt < 3; attempt++) {
-            vault.openVault();
-        }
-        return vault;
-    }
-
     private static void holdersAndSeal() {
         promise1NewObject();
         promise2AddHolder();
@@ -140,13 +101,13 @@ public final class PromiseTest {
             Check.due("2 index", vault.addHolder(), holder);
         }
         Check.refused("2 ninth", vault, 1, 8, vault::addHolder);
-        ShareVault late = sealed(3, 3, 2);
+        ShareVault late = Vaults.sealed(3, 3, 2);
         Check.due("2 late", late.addHolder(), 3);
         Check.due("2 share of late", late.share(3), 77);
         Check.due("2 late is correct", late.isCorrect(3), true);
         Check.due("2 late not presented", late.isPresented(3), false);
         Check.due("2 presented stay", late.presentedCount(), 2);
-        ShareVault second = sealed(2, 2, 0);
+        ShareVault second = Vaults.sealed(2, 2, 0);
         second.addHolder();
         Check.due("2 late on a line", second.share(2), 57);
     }
@@ -154,14 +115,14 @@ public final class PromiseTest {
     private static void promise3Seal() {
         int[][] shares = {{42, 42, 42, 42}, {47, 52, 57, 62}, {54, 80, 23, 77}};
         for (int threshold = 1; threshold <= 3; threshold++) {
-            ShareVault vault = withHolders(4);
+            ShareVault vault = Vaults.withHolders(4);
             Check.due("3 holders", vault.seal(42, 5, 7, threshold), 4);
             Check.due("3 threshold", vault.threshold(), threshold);
             for (int holder = 0; holder < 4; holder++) {
                 Check.due("3 share", vault.share(holder), shares[threshold - 1][holder]);
             }
         }
-        ShareVault vault = withHolders(8);
+        ShareVault vault = Vaults.withHolders(8);
         Check.due("3 greatest", vault.seal(96, 96, 96, 3), 8);
         Check.due("3 greatest share", vault.share(7), (96 + 96 * 8 + 96 * 64) % 97);
         Check.due("3 least", vault.seal(0, 0, 0, 1), 8);
@@ -173,16 +134,16 @@ public final class PromiseTest {
                 () -> vault.seal(numbers[0], numbers[1], numbers[2], numbers[3]));
         }
         for (int holders = 0; holders < 3; holders++) {
-            ShareVault few = withHolders(holders);
+            ShareVault few = Vaults.withHolders(holders);
             Check.refused("3 few", few, 2, holders, () -> few.seal(1, 2, 3, 3));
             Check.throwsOnly("3 range first", few, Check.ARGUMENT, () -> few.seal(97, 2, 3, 3));
             Check.due("3 range is no refusal", few.refusalReason(), 2);
         }
-        Check.due("3 enough", withHolders(2).seal(1, 2, 3, 2), 2);
+        Check.due("3 enough", Vaults.withHolders(2).seal(1, 2, 3, 2), 2);
     }
 
     private static void promise3SealAgain() {
-        ShareVault vault = opened(3, 2, 2);
+        ShareVault vault = Vaults.opened(3, 2, 2);
         vault.seal(9, 1, 1, 1);
         Check.due("3 closes", vault.isOpen(), false);
         Check.due("3 takes keys", vault.presentedCount(), 0);
@@ -190,10 +151,10 @@ public final class PromiseTest {
         Check.due("3 new share", vault.share(2), 9);
         Check.due("3 logs nothing", Check.logOf(vault), "0o2");
         Check.due("3 keeps openings", vault.openingCount(), 1);
-        ShareVault locked = locked();
+        ShareVault locked = Vaults.locked();
         locked.seal(1, 2, 3, 1);
         Check.due("3 unlocks", locked.lockedHours(), 0);
-        ShareVault failed = guarded(1, 1, 1);
+        ShareVault failed = Vaults.guarded(1, 1, 1);
         failed.setShare(0, 1);
         failed.openVault();
         failed.openVault();
@@ -202,7 +163,7 @@ public final class PromiseTest {
     }
 
     private static void promise4SetShare() {
-        ShareVault vault = sealed(3, 3, 3);
+        ShareVault vault = Vaults.sealed(3, 3, 3);
         Check.due("4 previous", vault.setShare(1, 96), 80);
         Check.due("4 again", vault.setShare(1, 0), 96);
         Check.due("4 share", vault.share(1), 0);
@@ -218,13 +179,13 @@ public final class PromiseTest {
         for (int share : new int[] {-1, 97, MIN, MAX}) {
             Check.throwsOnly("4 share", vault, Check.ARGUMENT, () -> vault.setShare(0, share));
         }
-        ShareVault open = withHolders(1);
+        ShareVault open = Vaults.withHolders(1);
         Check.throwsOnly("4 share first", open, Check.ARGUMENT, () -> open.setShare(0, 97));
         Check.refused("4 not sealed", open, 3, 0, () -> open.setShare(0, 1));
     }
 
     private static void promise5Present() {
-        ShareVault vault = sealed(8, 2, 0);
+        ShareVault vault = Vaults.sealed(8, 2, 0);
         for (int holder = 7; holder >= 0; holder--) {
             Check.due("5 count", vault.present(holder), 8 - holder);
         }
@@ -233,17 +194,17 @@ public final class PromiseTest {
         for (int holder : new int[] {-1, 8, MIN, MAX}) {
             Check.throwsOnly("5 holder", vault, Check.INDEX, () -> vault.present(holder));
         }
-        ShareVault unsealed = withHolders(1);
+        ShareVault unsealed = Vaults.withHolders(1);
         Check.refused("5 not sealed", unsealed, 3, 0, () -> unsealed.present(0));
         Check.throwsOnly("5 holder first", unsealed, Check.INDEX, () -> unsealed.present(1));
-        Check.due("5 while open", opened(3, 1, 1).present(2), 2);
-        ShareVault locked = locked();
+        Check.due("5 while open", Vaults.opened(3, 1, 1).present(2), 2);
+        ShareVault locked = Vaults.locked();
         locked.addHolder();
         Check.due("5 while locked", locked.present(1), 2);
     }
 
     private static void promise6TakeBack() {
-        ShareVault vault = sealed(4, 2, 4);
+        ShareVault vault = Vaults.sealed(4, 2, 4);
         Check.due("6 count", vault.takeBack(1), 3);
         Check.due("6 order", vault.presentedAt(0) * 100 + vault.presentedAt(1) * 10 + vault.presentedAt(2), 23);
         Check.refused("6 twice", vault, 5, 1, () -> vault.takeBack(1));
@@ -254,15 +215,15 @@ public final class PromiseTest {
         for (int holder : new int[] {-1, 4, MIN, MAX}) {
             Check.throwsOnly("6 holder", vault, Check.INDEX, () -> vault.takeBack(holder));
         }
-        ShareVault unsealed = withHolders(1);
+        ShareVault unsealed = Vaults.withHolders(1);
         Check.refused("6 not sealed", unsealed, 3, 0, () -> unsealed.takeBack(0));
         Check.throwsOnly("6 holder first", unsealed, Check.INDEX, () -> unsealed.takeBack(1));
-        ShareVault all = sealed(8, 1, 8);
+        ShareVault all = Vaults.sealed(8, 1, 8);
         Check.due("6 last of eight", all.takeBack(7), 7);
         all.present(7);
         Check.due("6 first of eight", all.takeBack(0), 7);
         Check.due("6 moves up", all.presentedAt(0) * 10 + all.presentedAt(6), 17);
-        ShareVault open = opened(3, 1, 1);
+        ShareVault open = Vaults.opened(3, 1, 1);
         Check.due("6 while open", open.takeBack(0), 0);
         Check.due("6 stays open", open.isOpen(), true);
     }
@@ -270,24 +231,24 @@ public final class PromiseTest {
     private static void promise7OpenVault() {
         for (int threshold = 1; threshold <= 3; threshold++) {
             for (int presented = threshold; presented <= 8; presented++) {
-                ShareVault vault = guarded(8, threshold, presented);
+                ShareVault vault = Vaults.guarded(8, threshold, presented);
                 Check.due("7 opens", vault.openVault(), true);
                 Check.due("7 open", vault.isOpen(), true);
                 Check.due("7 log", Check.logOf(vault), "0o" + presented);
             }
         }
-        ShareVault disagreeing = guarded(4, 2, 3);
+        ShareVault disagreeing = Vaults.guarded(4, 2, 3);
         disagreeing.setShare(2, 0);
         Check.due("7 one share off", disagreeing.openVault(), false);
         Check.due("7 log", Check.logOf(disagreeing), "0f3");
         Check.due("7 counted", disagreeing.failedAttempts(), 1);
         Check.due("7 closed", disagreeing.isOpen(), false);
-        ShareVault other = guarded(3, 2, 2);
+        ShareVault other = Vaults.guarded(3, 2, 2);
         // The line 1 + x tells another secret, though its shares agree.
         other.setShare(0, 2);
         other.setShare(1, 3);
         Check.due("7 other secret", other.openVault(), false);
-        ShareVault same = guarded(3, 2, 2);
+        ShareVault same = Vaults.guarded(3, 2, 2);
         // The line 42 + 6x tells the secret, though no share is correct.
         same.setShare(0, 48);
         same.setShare(1, 54);
@@ -296,22 +257,22 @@ public final class PromiseTest {
     }
 
     private static void promise7Refusals() {
-        ShareVault unsealed = withHolders(3);
+        ShareVault unsealed = Vaults.withHolders(3);
         Check.refused("7 not sealed", unsealed, 3, 0, unsealed::openVault);
-        ShareVault open = opened(3, 1, 2);
+        ShareVault open = Vaults.opened(3, 1, 2);
         open.takeBack(0);
         open.takeBack(1);
         Check.refused("7 open", open, 6, 0, open::openVault);
         open.present(2);
         Check.refused("7 open", open, 6, 1, open::openVault);
-        ShareVault locked = locked();
+        ShareVault locked = Vaults.locked();
         Check.refused("7 locked", locked, 7, 6, locked::openVault);
         locked.takeBack(0);
         locked.passHours(5);
         Check.refused("7 locked before few keys and guards", locked, 7, 1, locked::openVault);
         locked.passHours(1);
         Check.refused("7 few keys before guards", locked, 8, 1, locked::openVault);
-        ShareVault few = sealed(3, 3, 0);
+        ShareVault few = Vaults.sealed(3, 3, 0);
         Check.refused("7 few keys", few, 8, 3, few::openVault);
         few.present(2);
         Check.refused("7 few keys", few, 8, 2, few::openVault);
@@ -326,7 +287,7 @@ public final class PromiseTest {
     }
 
     private static void promise7Lock() {
-        ShareVault vault = guarded(2, 1, 1);
+        ShareVault vault = Vaults.guarded(2, 1, 1);
         vault.setShare(0, 0);
         vault.openVault();
         vault.openVault();
@@ -356,14 +317,14 @@ public final class PromiseTest {
     }
 
     private static void promise8CloseVault() {
-        ShareVault vault = opened(3, 2, 3);
+        ShareVault vault = Vaults.opened(3, 2, 3);
         vault.passHours(3);
         Check.due("8 keys", vault.closeVault(), 3);
         Check.due("8 closed", vault.isOpen(), false);
         Check.due("8 taken back", vault.presentedCount(), 0);
         Check.due("8 log", Check.logOf(vault), "0o3 3c0");
         Check.refused("8 closed", vault, 10, 0, vault::closeVault);
-        ShareVault failed = guarded(1, 1, 1);
+        ShareVault failed = Vaults.guarded(1, 1, 1);
         failed.setShare(0, 1);
         failed.openVault();
         failed.openVault();
@@ -503,7 +464,7 @@ public final class PromiseTest {
     }
 
     private static void promises18To21() {
-        ShareVault vault = withHolders(3);
+        ShareVault vault = Vaults.withHolders(3);
         Check.throwsOnly("18 not sealed", vault, Check.NO_ELEMENT, () -> vault.isCorrect(2));
         Check.throwsOnly("18 holder first", vault, Check.INDEX, () -> vault.isCorrect(3));
         Check.due("19 not sealed", vault.isPresented(2), false);
@@ -529,11 +490,11 @@ public final class PromiseTest {
     }
 
     private static void promises22To24Told() {
-        ShareVault unsealed = withHolders(1);
+        ShareVault unsealed = Vaults.withHolders(1);
         toldThrows(unsealed);
         Check.throwsOnly("24 range first", unsealed, Check.ARGUMENT, () -> unsealed.toldValue(97));
         for (int threshold = 1; threshold <= 3; threshold++) {
-            ShareVault vault = sealed(8, threshold, 0);
+            ShareVault vault = Vaults.sealed(8, threshold, 0);
             for (int presented = 0; presented < threshold; presented++) {
                 toldThrows(vault);
                 vault.present(7 - 3 * presented);
@@ -545,7 +506,7 @@ public final class PromiseTest {
             Check.due("24 at 0", vault.toldValue(0), 42);
             Check.due("24 at a position", vault.toldValue(8), vault.share(7));
         }
-        ShareVault vault = sealed(5, 2, 0);
+        ShareVault vault = Vaults.sealed(5, 2, 0);
         vault.present(4);
         vault.present(2);
         vault.present(0);
@@ -573,7 +534,7 @@ public final class PromiseTest {
 
     private static void promises25To27Agreeing() {
         for (int threshold = 1; threshold <= 3; threshold++) {
-            ShareVault vault = sealed(8, threshold, 8);
+            ShareVault vault = Vaults.sealed(8, threshold, 8);
             agreeing(vault, true, 8);
             for (int holder = 7; holder >= 0; holder--) {
                 vault.setShare(holder, (vault.share(holder) + 11 * holder * holder * holder + 1) % 97);
@@ -583,7 +544,7 @@ public final class PromiseTest {
                 Check.due("25", vault.doAgree(), vault.mostAgreeing() == 8);
             }
         }
-        ShareVault split = sealed(7, 1, 7);
+        ShareVault split = Vaults.sealed(7, 1, 7);
         split.setShare(0, 3);
         split.setShare(3, 3);
         split.setShare(6, 3);
@@ -592,12 +553,12 @@ public final class PromiseTest {
         agreeing(split, false, 4);
         split.setShare(2, 3);
         agreeing(split, false, 5);
-        ShareVault lines = sealed(5, 2, 5);
+        ShareVault lines = Vaults.sealed(5, 2, 5);
         lines.setShare(1, 0);
         agreeing(lines, false, 4);
         lines.setShare(4, 0);
         agreeing(lines, false, 3);
-        ShareVault exact = sealed(5, 3, 3);
+        ShareVault exact = Vaults.sealed(5, 3, 3);
         exact.setShare(1, 0);
         agreeing(exact, true, 3);
     }
@@ -609,7 +570,7 @@ public final class PromiseTest {
     }
 
     private static void promises28To30Door() {
-        ShareVault vault = guarded(1, 1, 1);
+        ShareVault vault = Vaults.guarded(1, 1, 1);
         Check.due("28 closed", vault.isOpen(), false);
         Check.due("29 unlocked", vault.lockedHours(), 0);
         Check.due("30 none", vault.failedAttempts(), 0);
@@ -621,7 +582,7 @@ public final class PromiseTest {
         vault.openVault();
         Check.due("30 locked", vault.failedAttempts(), 0);
         Check.due("29 locked", vault.lockedHours(), 6);
-        Check.due("28 open", opened(1, 1, 1).isOpen(), true);
+        Check.due("28 open", Vaults.opened(1, 1, 1).isOpen(), true);
     }
 
     private static void promises31To35Zones() {
@@ -727,7 +688,7 @@ public final class PromiseTest {
     }
 
     private static void promises40To42Sums() {
-        ShareVault vault = opened(2, 1, 1);
+        ShareVault vault = Vaults.opened(2, 1, 1);
         vault.hum(4, 9);
         vault.hum(5, 9);
         vault.passHours(1);
@@ -748,7 +709,7 @@ public final class PromiseTest {
     }
 
     private static void promises43To46Log() {
-        ShareVault vault = opened(3, 2, 2);
+        ShareVault vault = Vaults.opened(3, 2, 2);
         vault.hum(4, 9);
         vault.passHours(2);
         vault.closeVault();
@@ -803,7 +764,7 @@ public final class PromiseTest {
 
     private static void promise49IsConsistent() {
         Check.due("49 new", new ShareVault().isConsistent(), true);
-        ShareVault vault = opened(8, 3, 8);
+        ShareVault vault = Vaults.opened(8, 3, 8);
         vault.setShare(2, 1);
         vault.hum(4, 9);
         vault.addGuard(3, false, 3);
@@ -878,7 +839,7 @@ public final class PromiseTest {
         Check.due("54 hours", vault.hour(), 12);
         Check.throwsOnly("54 empty", vault, Check.ARGUMENT, vault::runCommands);
         Check.due("54 empty at 0", vault.errorPosition(), 0);
-        ShareVault twice = guarded(2, 2, 2);
+        ShareVault twice = Vaults.guarded(2, 2, 2);
         twice.setShare(0, 1);
         Check.run(twice, "wait 1");
         failing(twice, "hum 1 9;open", 1, 12);
@@ -902,18 +863,14 @@ public final class PromiseTest {
         same("wait", vault -> vault.passHours(1));
         same("wait 3", vault -> vault.passHours(3));
         same("wait 24", vault -> vault.passHours(24));
-        ShareVault vault = opened(1, 1, 1);
+        ShareVault vault = Vaults.opened(1, 1, 1);
         Check.run(vault, "close");
         Check.due("54 close", Check.logOf(vault), "0o1 0c0");
     }
 
-    private interface Step {
-        void take(ShareVault vault);
-    }
-
-    private static void same(String text, Step step) {
-        ShareVault vault = guarded(4, 2, 2);
-        ShareVault other = guarded(4, 2, 2);
+    private static void same(String text, Vaults.Step step) {
+        ShareVault vault = Vaults.guarded(4, 2, 2);
+        ShareVault other = Vaults.guarded(4, 2, 2);
         Check.run(vault, text);
         step.take(other);
         vault.passHours(5);
@@ -922,26 +879,27 @@ public final class PromiseTest {
     }
 
     private static void promise54Causes() {
-        failing(withHolders(8), "holder", 0, 1);
-        failing(withHolders(1), "wait;seal 1 1 1 2", 1, 2);
-        failing(withHolders(1), "give 0", 0, 3);
-        failing(withHolders(1), "back 0", 0, 3);
-        failing(withHolders(1), "share 0 96", 0, 3);
-        failing(withHolders(1), "close", 0, 3);
-        failing(sealed(2, 1, 0), "give 1;give 1", 1, 4);
-        failing(sealed(2, 1, 0), "back 1", 0, 5);
-        failing(opened(2, 1, 1), "open", 0, 6);
-        failing(locked(), "open", 0, 7);
-        failing(sealed(2, 1, 0), "open", 0, 8);
-        failing(sealed(2, 1, 1), "open", 0, 9);
-        failing(sealed(2, 1, 1), "close", 0, 10);
+        failing(Vaults.withHolders(8), "holder", 0, 1);
+        failing(Vaults.withHolders(1), "wait;seal 1 1 1 2", 1, 2);
+        failing(Vaults.withHolders(1), "give 0", 0, 3);
+        failing(Vaults.withHolders(1), "back 0", 0, 3);
+        failing(Vaults.withHolders(1), "share 0 96", 0, 3);
+        failing(Vaults.withHolders(1), "close", 0, 3);
+        failing(Vaults.sealed(2, 1, 0), "give 1;give 1", 1, 4);
+        failing(Vaults.sealed(2, 1, 0), "back 1", 0, 5);
+        failing(Vaults.opened(2, 1, 1), "open", 0, 6);
+        failing(Vaults.locked(), "open", 0, 7);
+        failing(Vaults.sealed(2, 1, 0), "open", 0, 8);
+        failing(Vaults.sealed(2, 1, 1), "open", 0, 9);
+        failing(Vaults.sealed(2, 1, 1), "close", 0, 10);
         failing(new ShareVault(), "guard 0+1;guard 0+1;guard 0+1;guard 0+1", 3, 1);
         String[] others = {"seal 97 0 0 1", "seal 0 99 0 1", "seal 0 0 97 1", "seal 0 0 0 4", "seal 0 0 0 0",
             "share 2 5", "share 0 97", "give 2", "back 9", "guard 8+1", "guard 0+0", "guard 0-5", "turn 0",
             "hum 8 1", "hum 0 0", "wait 0", "wait 00", "wait 25", "wait 99"};
         for (String text : others) {
-            failing(sealed(2, 1, 0), text, 0, 12);
-            failing(sealed(2, 1, 0), "holder;" + text.replace("share 2", "share 9").replace("give 2", "give 9"), 1, 12);
+            failing(Vaults.sealed(2, 1, 0), text, 0, 12);
+            String later = text.replace("share 2", "share 9").replace("give 2", "give 9");
+            failing(Vaults.sealed(2, 1, 0), "holder;" + later, 1, 12);
         }
     }
 
@@ -988,7 +946,7 @@ public final class PromiseTest {
     }
 
     private static void promise57WriteLog() {
-        ShareVault vault = guarded(3, 2, 2);
+        ShareVault vault = Vaults.guarded(3, 2, 2);
         Check.due("57 empty", vault.writeLog(), 0);
         vault.hum(5, 9);
         vault.passHours(1);
@@ -1038,7 +996,7 @@ public final class PromiseTest {
             Check.due("60 state", Check.savedPartOf(vault), states[call]);
         }
         Check.throwsOnly("60 no more", vault, Check.ILLEGAL_STATE, vault::undo);
-        ShareVault full = withHolders(8);
+        ShareVault full = Vaults.withHolders(8);
         for (int call = 0; call < 20; call++) {
             Check.outcomeOf(full::addHolder);
         }
@@ -1065,7 +1023,7 @@ public final class PromiseTest {
         undone("hum", vault -> vault.hum(5, 5));
         undone("passHours", vault -> vault.passHours(24));
         undone("runCommands", vault -> Check.run(vault, "holder;wait 24;hum 1 1"));
-        ShareVault failing = guarded(3, 2, 2);
+        ShareVault failing = Vaults.guarded(3, 2, 2);
         failing.setShare(0, 1);
         failing.openVault();
         failing.openVault();
@@ -1073,7 +1031,7 @@ public final class PromiseTest {
         Check.due("60 failed attempt", failing.openVault(), false);
         failing.undo();
         Check.due("60 failed attempt is recorded", Check.savedPartOf(failing), before);
-        ShareVault closing = opened(3, 2, 3);
+        ShareVault closing = Vaults.opened(3, 2, 3);
         before = Check.savedPartOf(closing);
         closing.closeVault();
         closing.undo();
@@ -1087,8 +1045,8 @@ public final class PromiseTest {
         Check.due("60 without a change", loud.noise(0), 20);
     }
 
-    private static void undone(String what, Step step) {
-        ShareVault vault = guarded(4, 2, 2);
+    private static void undone(String what, Vaults.Step step) {
+        ShareVault vault = Vaults.guarded(4, 2, 2);
         vault.hum(4, 9);
         vault.passHours(1);
         int calls = vault.undoCount();
@@ -1101,7 +1059,7 @@ public final class PromiseTest {
 
     /** With a full log, a new entry moves all others, so that each of them has to come back. */
     private static void promises60And62FullLog() {
-        ShareVault vault = opened(3, 2, 2);
+        ShareVault vault = Vaults.opened(3, 2, 2);
         for (int hours = 1; hours < 12; hours++) {
             raiseAlarm(vault, hours);
         }
@@ -1128,7 +1086,7 @@ public final class PromiseTest {
     }
 
     private static void promises61And62Save() {
-        ShareVault vault = guarded(4, 2, 3);
+        ShareVault vault = Vaults.guarded(4, 2, 3);
         Check.throwsOnly("62 none", vault, Check.ILLEGAL_STATE, vault::restore);
         vault.setShare(3, 1);
         vault.openVault();
