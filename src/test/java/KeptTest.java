@@ -15,6 +15,7 @@ public final class KeptTest {
         longestOutputs();
         noCallToUndo();
         eighthAndNinthCall();
+        callsThatThrowAreNotRecorded();
         callsThatAreRecorded();
         callsThatAreNotRecorded();
         callsWithoutAChange();
@@ -239,6 +240,37 @@ public final class KeptTest {
                 Check.due("59 left after " + calls, vault.undoCount(), left);
             }
             Check.throwsOnly("60 ninth after " + calls, vault, Check.ILLEGAL_STATE, vault::undo);
+        }
+    }
+
+    /** Not even the oldest of eight states is lost by them. */
+    private static void callsThatThrowAreNotRecorded() {
+        Vaults.Step[] steps = {vault -> vault.seal(1, 1, 1, 3), vault -> vault.seal(97, 1, 1, 1),
+            vault -> vault.setShare(1, 1), vault -> vault.setShare(0, 97), vault -> vault.present(0),
+            vault -> vault.present(1), vault -> vault.takeBack(1), ShareVault::openVault, ShareVault::closeVault,
+            vault -> vault.addGuard(8, true, 1), vault -> vault.turnGuard(0), vault -> vault.hum(8, 1),
+            vault -> vault.passHours(25), vault -> Check.run(vault, "holder;wait;open"),
+            vault -> Check.run(vault, "holder;wait;"), ShareVault::restore};
+        for (int index = 0; index < steps.length; index++) {
+            ShareVault vault = Vaults.sealed(1, 1, 1);
+            String[] states = new String[8];
+            for (int call = 0; call < 8; call++) {
+                states[call] = Check.savedPartOf(vault);
+                vault.hum(call, 1);
+            }
+            Vaults.Step step = steps[index];
+            String outcome = Check.outcomeOf(() -> step.take(vault));
+            Check.due("60 step " + index + " throws", outcome.endsWith("Exception"), true);
+            for (int call = 7; call >= 0; call--) {
+                Check.due("60 after step " + index, vault.undo(), call);
+                Check.due("60 after step " + index, Check.savedPartOf(vault), states[call]);
+            }
+        }
+        ShareVault full = Vaults.withHolders(8);
+        Check.outcomeOf(full::addHolder);
+        for (int holders = 7; holders >= 0; holders--) {
+            full.undo();
+            Check.due("60 after a ninth holder", full.holderCount(), holders);
         }
     }
 

@@ -18,6 +18,7 @@ public final class KeysTest {
         toldByTheFirstKeys();
         noKeyThresholdAndAll();
         agreeing();
+        agreeingAfterOtherThresholds();
         keysAreTheSharesOfLater();
         openingByKeys();
         thirdFailedAttempt();
@@ -327,6 +328,24 @@ public final class KeysTest {
         last.setShare(1, 0);
         last.setShare(2, 0);
         agreeing("the last five, and three on another line", last, false, 5);
+    }
+
+    /** What was found for one threshold must not tell for another. */
+    private static void agreeingAfterOtherThresholds() {
+        for (int order : new int[] {321, 312, 213, 231, 132, 123}) {
+            ShareVault vault = Vaults.withHolders(8);
+            for (int digits = order; digits > 0; digits /= 10) {
+                int threshold = digits % 10;
+                vault.seal(42, 5, 7, threshold);
+                for (int holder = 0; holder < 8; holder++) {
+                    vault.present(holder);
+                }
+                agreeing("anew", vault, true, 8);
+                Check.due("23 anew", vault.toldSecretByElimination(), 42);
+                vault.setShare(7, 0);
+                agreeing("anew, one off", vault, false, 7);
+            }
+        }
     }
 
     private static void keysAreTheSharesOfLater() {

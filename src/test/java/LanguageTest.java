@@ -51,8 +51,8 @@ public final class LanguageTest {
                 methods++;
             }
             boolean isEnd = line.equals("    }") || line.equals("        }");
-            Check.due("method before line " + number, isEnd && number - start > MOST_LINES && start > 0
-                && METHOD.matcher(lines.get(start - 1)).find() && indentOf(line) == indentOf(lines.get(start - 1)), false);
+            boolean isItsEnd = isEnd && start > 0 && indentOf(line) == indentOf(lines.get(start - 1));
+            Check.due("method before line " + number, isItsEnd && number - start > MOST_LINES, false);
         }
         Check.due("methods found", methods > 100, true);
     }
