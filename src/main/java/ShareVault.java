@@ -836,8 +836,10 @@ public final class ShareVault {
             alarmCount = other.alarmCount;
             guardCount = other.guardCount;
             System.arraycopy(other.guardZones, 0, guardZones, 0, MAX_GUARDS);
-            System.arraycopy(other.forwards, 0, forwards, 0, MAX_GUARDS);
             System.arraycopy(other.periods, 0, periods, 0, MAX_GUARDS);
+            for (int guard = 0; guard < MAX_GUARDS; guard++) {
+                forwards[guard] = other.forwards[guard];
+            }
         }
 
         static boolean hasZone(int zone) {

@@ -81,7 +81,8 @@ final class Check {
         return savedPartOf(vault) + " undo " + vault.undoCount();
     }
 
-    static String savedPartOf(ShareVault vault) {
+    static String savedPartOf(ShareVault looked) {
+        ShareVault vault = Copy.of(looked);
         StringBuilder text = new StringBuilder();
         add(text, vault.hour(), vault.isSealed(), vault.isOpen(), vault.lockedHours(), vault.failedAttempts());
         add(text, vault.openingCount(), vault.alarmCount(), outcomeOf(vault::threshold), vault.meanNoise());

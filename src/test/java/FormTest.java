@@ -6,7 +6,7 @@ import java.util.regex.Pattern;
 public final class FormTest {
     private static final String COMMAND = "(?:holder|seal(?: [0-9]{1,2}){4}|share [0-9] [0-9]{1,2}|give [0-9]"
             + "|back [0-9]|open|close|guard [0-9][+-][0-9]|turn [0-9]|hum [0-9] [0-9]|wait(?: [0-9]{1,2})?)";
-    private static final Pattern TEXT = Pattern.compile(COMMAND + "(?:;" + COMMAND + ")*");
+    static final Pattern TEXT = Pattern.compile(COMMAND + "(?:;" + COMMAND + ")*");
     private static final String[] SAMPLES = {
         "holder", "seal 1 2 3 1", "seal 96 0 50 03", "share 0 9", "share 7 96", "give 0", "back 7", "open", "close",
         "guard 0+1", "guard 7-4", "turn 0", "hum 3 9", "wait", "wait 1", "wait 24", "seal 99 99 99 99"
@@ -73,7 +73,7 @@ public final class FormTest {
         Check.due("'" + text + "' is taken away", vault.feed('x'), 1);
     }
 
-    private static int firstWrong(String text) {
+    static int firstWrong(String text) {
         for (int length = 1; length <= text.length(); length++) {
             Matcher matcher = TEXT.matcher(text.substring(0, length));
             // What matches or was ended by its end alone can be continued.

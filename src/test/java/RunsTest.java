@@ -1,186 +1,249 @@
 import java.lang.reflect.InvocationTargetException;
 import java.lang.reflect.Method;
-import java.util.ArrayDeque;
-import java.util.ArrayList;
 import java.util.Arrays;
-import java.util.Comparator;
-import java.util.Deque;
-import java.util.List;
+import java.util.HashMap;
+import java.util.Map;
 import java.util.Random;
 import java.util.Set;
 
-/** Random runs of calls, whose answers and states are compared with what can be found in another way. */
+/** Random runs of at most 512 calls, each of which must answer what the Model does, and keys against all polynomials. */
 public final class RunsTest {
-    private static final Set<String> RECORDED = Set.of("addHolder", "seal", "setShare", "present", "takeBack",
-        "openVault", "closeVault", "addGuard", "turnGuard", "hum", "passHours", "runCommands");
+    /** How often each method is called, and the ranges from which its arguments mostly come; "?" is true or false. */
+    private static final String[] METHODS = {
+        "addHolder 6", "seal 3 0-96 0-96 0-96 1-3", "setShare 6 H 0-96", "present 20 H", "takeBack 4 H",
+        "openVault 14", "closeVault 8", "addGuard 6 0-7 ? 1-4", "turnGuard 4 0-2", "hum 20 0-7 1-9",
+        "passHours 8 1-24", "hour 1", "holderCount 1", "isSealed 1", "threshold 1", "share 3 H", "isCorrect 3 H",
+        "isPresented 2 H", "presentedCount 1", "presentedAt 2 H", "toldSecret 3", "toldSecretByElimination 3",
+        "toldValue 3 0-96", "doAgree 3", "mostAgreeing 2", "mostAgreeingBySets 2", "isOpen 1", "lockedHours 1",
+        "failedAttempts 1", "guardCount 1", "zoneOf 2 0-2", "isForwards 2 0-2", "noise 2 0-7", "isGuarded 2 0-7",
+        "hoursUntilVisit 3 0-7", "hoursUntilVisitByRemainders 3 0-7", "alarmsIn 3 0-24", "zoneByNoise 3 0-7",
+        "alarmsOf 2 0-7", "alarmCount 1", "openingCount 1", "logCount 1", "logHour 2 0-11", "logKind 2 0-11",
+        "logDetail 2 0-11", "meanNoise 1", "alarmShare 2 0-7", "isConsistent 2", "refusalReason 2",
+        "refusalDetail 2", "refusalCause 2", "feed 1 ?", "runCommands 1", "errorPosition 2", "writeZones 1",
+        "writeLog 1", "outputChar 2 0-40", "undoCount 2", "undo 8", "save 1", "restore 1"
+    };
     private static final Set<String> CHANGING = Set.of("addHolder", "seal", "setShare", "present", "takeBack",
-        "openVault", "closeVault", "addGuard", "turnGuard", "hum", "passHours", "runCommands", "undo", "restore");
-    private static final String[] TEXTS = {"holder", "wait 24;hum 1 9;wait", "give 0;give 1;give 2;open", "open;close",
-        "guard 0+1;open", "seal 5 6 7 2;give 1;give 0;open", "hum 3 9;open", "close;wait 6", "hold", "share 1 9;x"};
-    private static final int CALLS = 500;
+        "openVault", "closeVault", "addGuard", "turnGuard", "hum", "passHours", "feed", "runCommands", "writeZones",
+        "writeLog", "outputChar", "undo", "save", "restore");
+    private static final int MOST_CALLS = 512;
+
+    private static final Map<String, Method> OF_VAULT = byName(ShareVault.class);
+    private static final Map<String, Method> OF_MODEL = byName(Model.class);
+    private static final Map<String, Integer> SEEN = new HashMap<>();
 
     private final Random random;
     private final ShareVault vault = new ShareVault();
-    private final Deque<String> past = new ArrayDeque<>();
-    private String saved = null;
+    private final Model model = new Model();
+    private int calls = 0;
 
     private RunsTest(long seed) {
         random = new Random(seed);
     }
 
-    public static void main(String[] args) throws Exception {
-        for (int seed = 0; seed < 120; seed++) {
-            new RunsTest(seed).makeRun();
+    public static void main(String[] args) {
+        Check.due("methods", METHODS.length, OF_VAULT.size());
+        for (int seed = 0; seed < 600; seed++) {
+            RunsTest run = new RunsTest(seed);
+            run.begin();
+            run.goOn(seed % 3 == 0 ? 300 : MOST_CALLS);
+            if (seed % 3 == 0) {
+                run.lookAtAll();
+            }
+            Check.due("calls of a run", run.calls <= MOST_CALLS, true);
         }
+        checkSeen();
         for (int seed = 0; seed < 150; seed++) {
             checkKeys(new Random(seed), 1 + seed % 3);
         }
         Check.end();
     }
 
-    private void makeRun() throws Exception {
-        List<Method> methods = new ArrayList<>(Arrays.asList(ShareVault.class.getDeclaredMethods()));
-        methods.removeIf(method -> !java.lang.reflect.Modifier.isPublic(method.getModifiers()));
-        // Reflection promises no order, and a run must be the same each time.
-        methods.sort(Comparator.comparing(Method::getName));
-        List<Method> often = methods.stream().filter(method -> CHANGING.contains(method.getName())).toList();
-        for (int call = 0; call < CALLS; call++) {
-            List<Method> chosen = random.nextInt(3) > 0 ? often : methods;
-            makeCall(chosen.get(random.nextInt(chosen.size())));
-            if (call % 25 == 0) {
-                checkFuture();
+    private static Map<String, Method> byName(Class<?> type) {
+        Map<String, Method> methods = new HashMap<>();
+        for (Method method : type.getDeclaredMethods()) {
+            if (java.lang.reflect.Modifier.isPublic(method.getModifiers())) {
+                methods.put(method.getName(), method);
             }
         }
+        return methods;
     }
 
-    private void makeCall(Method method) throws Exception {
-        if (method.getName().equals("restore") && random.nextInt(8) > 0) {
+    /** Most runs begin with what an attempt to open needs, which random calls seldom come to. */
+    private void begin() {
+        if (random.nextInt(5) == 0) {
             return;
         }
-        if (method.getName().equals("runCommands")) {
-            feedSome();
+        int holders = 3 + random.nextInt(6);
+        for (int holder = 0; holder < holders; holder++) {
+            call("addHolder");
         }
-        String before = Check.savedPartOf(vault);
-        Object[] arguments = argumentsFor(method);
-        String what = method.getName() + Arrays.toString(arguments);
-        try {
-            Object answer = method.invoke(vault, arguments);
-            noteReturn(what, method.getName(), before, answer);
-        } catch (InvocationTargetException wrapped) {
-            checkThrown(what, method, wrapped.getCause());
-            Check.due(what + " that throws leaves the state", Check.savedPartOf(vault), before);
+        call("addGuard", 0, random.nextBoolean(), 1 + random.nextInt(4));
+        int threshold = 1 + random.nextInt(3);
+        call("seal", random.nextInt(97), random.nextInt(97), random.nextInt(97), threshold);
+        for (int holder = 0; holder < threshold; holder++) {
+            call("present", holder);
         }
-        Check.due(what + " and undoCount", vault.undoCount(), past.size());
-        Check.due(what + " and isConsistent", vault.isConsistent(), true);
-    }
-
-    /** Only a listed class, and none below it, is thrown: the machine's own are below or not listed. */
-    private static void checkThrown(String what, Method method, Throwable thrown) {
-        boolean listed = Arrays.asList(method.getExceptionTypes()).contains(thrown.getClass());
-        Check.due(what + " throws " + thrown, listed, true);
-    }
-
-    private void noteReturn(String what, String name, String before, Object answer) {
-        String after = Check.savedPartOf(vault);
-        if (RECORDED.contains(name)) {
-            past.addLast(before);
-            if (past.size() > 8) {
-                past.removeFirst();
-            }
-        } else if (name.equals("undo")) {
-            Check.due(what, after, past.removeLast());
-            Check.due(what, answer, past.size());
-        } else if (name.equals("restore")) {
-            Check.due(what, after, saved);
-            past.clear();
-        } else {
-            Check.due(what + " changes nothing", after, before);
-            saved = name.equals("save") ? before : saved;
+        if (random.nextInt(3) > 0) {
+            call("setShare", random.nextInt(threshold), random.nextInt(97));
         }
     }
 
-    private void feedSome() {
-        String text = TEXTS[random.nextInt(TEXTS.length)];
-        for (char sign : text.toCharArray()) {
-            Check.outcomeOf(() -> vault.feed(sign));
-        }
-    }
-
-    private Object[] argumentsFor(Method method) {
-        Class<?>[] types = method.getParameterTypes();
-        Object[] arguments = new Object[types.length];
-        for (int index = 0; index < types.length; index++) {
-            if (types[index] == boolean.class) {
-                arguments[index] = random.nextBoolean();
-            } else if (types[index] == char.class) {
-                arguments[index] = TEXTS[2].charAt(random.nextInt(TEXTS[2].length()));
+    private void goOn(int most) {
+        // The output takes 97 calls at most, a text 64.
+        while (calls < most - 100) {
+            int kind = random.nextInt(60);
+            if (kind < 2) {
+                runText();
+            } else if (kind < 7) {
+                tryToOpen();
+            } else if (kind == 7) {
+                readOutput(random.nextBoolean() ? "writeZones" : "writeLog");
             } else {
-                arguments[index] = someNumber();
+                callOne(METHODS[someMethod()].split(" "));
             }
         }
-        return arguments;
     }
 
-    private int someNumber() {
-        int[] odd = {Integer.MIN_VALUE, Integer.MAX_VALUE, -1, 8, 20, 24, 25, 96, 97};
-        int kind = random.nextInt(12);
-        return kind == 0 ? odd[random.nextInt(odd.length)] : kind < 8 ? random.nextInt(4) : random.nextInt(10);
+    private int someMethod() {
+        int all = Arrays.stream(METHODS).mapToInt(RunsTest::weightOf).sum();
+        int left = random.nextInt(all);
+        int method = 0;
+        while (left >= weightOf(METHODS[method])) {
+            left -= weightOf(METHODS[method]);
+            method++;
+        }
+        return method;
     }
 
-    private void checkFuture() {
-        int[] zones = new int[8];
-        for (int rank = 0; rank < 8; rank++) {
-            zones[rank] = vault.zoneByNoise(rank);
+    private static int weightOf(String method) {
+        return Integer.parseInt(method.split(" ")[1]);
+    }
+
+    private void callOne(String[] parts) {
+        Object[] arguments = new Object[parts.length - 2];
+        for (int index = 0; index < arguments.length; index++) {
+            arguments[index] = argument(parts[index + 2]);
         }
-        Integer[] sorted = {0, 1, 2, 3, 4, 5, 6, 7};
-        Arrays.sort(sorted, Comparator.comparing((Integer zone) -> -vault.noise(zone))
-            .thenComparing(zone -> -vault.alarmsOf(zone)));
-        Check.due("zoneByNoise", Arrays.toString(zones), Arrays.toString(sorted));
-        for (int hours : new int[] {1, 5, 24}) {
-            int foretold = vault.alarmsIn(hours);
-            Check.due("passHours", vault.passHours(hours), foretold);
-            vault.undo();
+        if (parts[0].equals("feed")) {
+            arguments[0] = "holder;wait 1\u00ff".charAt(random.nextInt(14));
         }
-        // These calls are recorded, so the oldest of eight states has gone.
-        while (past.size() > 7) {
-            past.removeFirst();
+        call(parts[0], arguments);
+    }
+
+    private Object argument(String range) {
+        if (range.equals("?")) {
+            return random.nextBoolean();
         }
-        for (int zone = 0; zone < 8; zone++) {
-            checkVisit(zone);
+        int least = range.equals("H") ? 0 : Integer.parseInt(range.split("-")[0]);
+        int greatest = range.equals("H") ? model.holderCount() - 1 : Integer.parseInt(range.split("-")[1]);
+        int[] wrong = {least - 1, greatest + 1, Integer.MIN_VALUE, Integer.MAX_VALUE};
+        return greatest < least || random.nextInt(12) == 0 ? wrong[random.nextInt(4)]
+            : least + random.nextInt(greatest - least + 1);
+    }
+
+    /** The same attempt some times over, so that the vault is locked in many runs. */
+    private void tryToOpen() {
+        for (int attempts = random.nextInt(4); attempts >= 0; attempts--) {
+            call("openVault");
         }
     }
 
-    private void checkVisit(int zone) {
-        if (vault.guardCount() == 0) {
-            return;
+    private void readOutput(String method) {
+        call(method);
+        int length = model.outputLength();
+        for (int index = 0; index <= length; index++) {
+            call("outputChar", index);
         }
-        int foretold = vault.hoursUntilVisitByRemainders(zone);
-        Check.due("hoursUntilVisit", vault.hoursUntilVisit(zone), foretold);
-        int passed = 0;
-        boolean inside = isInside(zone);
-        while (!inside && passed < 24) {
-            passed++;
-            vault.passHours(passed);
-            inside = isInside(zone);
-            vault.undo();
-        }
-        Check.due("visit", inside ? passed : 24, Math.min(foretold, 24));
     }
 
-    private boolean isInside(int zone) {
-        for (int guard = 0; guard < vault.guardCount(); guard++) {
-            if (vault.zoneOf(guard) == zone) {
-                return true;
+    private void runText() {
+        String text = command();
+        while (random.nextInt(4) > 0) {
+            text = text + ";" + command();
+        }
+        if (random.nextInt(4) == 0) {
+            int index = random.nextInt(text.length());
+            text = text.substring(0, index) + "x; 0"
+                .charAt(random.nextInt(4)) + text.substring(index + random.nextInt(2));
+        }
+        for (int index = 0; index < Math.min(60, text.length()); index++) {
+            call("feed", text.charAt(index));
+        }
+        call("runCommands");
+    }
+
+    private String command() {
+        String[] forms = {"holder", "seal 77 77 77 4", "share 9 77", "give 9", "give 9", "back 9", "open", "open",
+            "close", "guard 9+5", "guard 9-5", "turn 3", "hum 9 9", "wait", "wait 9", "wait 27"};
+        StringBuilder text = new StringBuilder(forms[random.nextInt(forms.length)]);
+        for (int index = 0; index < text.length(); index++) {
+            if (Character.isDigit(text.charAt(index))) {
+                text.setCharAt(index, (char) ('0' + random.nextInt(text.charAt(index) - '0' + 1)));
             }
         }
-        return false;
+        return text.toString();
+    }
+
+    private void lookAtAll() {
+        for (String method : METHODS) {
+            String[] parts = method.split(" ");
+            boolean isLook = !CHANGING.contains(parts[0]);
+            if (isLook && parts.length == 2) {
+                call(parts[0]);
+            } else if (isLook) {
+                int greatest = parts[2].equals("H") ? 7 : Math.min(11, Integer.parseInt(parts[2].split("-")[1]));
+                for (int number = 0; number <= greatest; number++) {
+                    call(parts[0], number);
+                }
+            }
+        }
+    }
+
+    private void call(String name, Object... arguments) {
+        calls++;
+        String want = outcomeOf(OF_MODEL.get(name), model, arguments);
+        Check.due("call " + calls + " " + name + Arrays.toString(arguments),
+            outcomeOf(OF_VAULT.get(name), vault, arguments), want);
+        SEEN.merge(name + (want.endsWith("Exception") ? " throws" : ""), 1, Integer::sum);
+        if (name.equals("openVault") || name.equals("refusalReason") || name.equals("refusalCause")) {
+            SEEN.merge(name + " " + want, 1, Integer::sum);
+        }
+        if (want.equals("UnsupportedOperationException") && random.nextInt(3) == 0) {
+            call("refusalReason");
+            call("refusalDetail");
+            call("refusalCause");
+        }
+    }
+
+    private static String outcomeOf(Method method, Object object, Object[] arguments) {
+        try {
+            return String.valueOf(method.invoke(object, arguments));
+        } catch (InvocationTargetException thrown) {
+            return thrown.getCause().getClass().getSimpleName();
+        } catch (IllegalAccessException wrong) {
+            throw new AssertionError(wrong);
+        }
+    }
+
+    /** The runs must come to what they are there for. */
+    private static void checkSeen() {
+        for (String name : OF_VAULT.keySet()) {
+            Check.due("seen " + name, SEEN.getOrDefault(name, 0) >= 30, true);
+        }
+        for (int reason = 1; reason <= 12; reason++) {
+            if (reason <= 11) {
+                Check.due("seen reason " + reason, SEEN.getOrDefault("refusalReason " + reason, 0) >= 3, true);
+            }
+            if (reason != 11) {
+                Check.due("seen cause " + reason, SEEN.getOrDefault("refusalCause " + reason, 0) >= 1, true);
+            }
+        }
+        Check.due("seen true", SEEN.getOrDefault("openVault true", 0) >= 100, true);
+        Check.due("seen false", SEEN.getOrDefault("openVault false", 0) >= 300, true);
     }
 
     private static void checkKeys(Random random, int threshold) {
-        ShareVault vault = new ShareVault();
-        for (int holder = 0; holder < 8; holder++) {
-            vault.addHolder();
-        }
+        ShareVault vault = Vaults.withHolders(8);
         vault.seal(random.nextInt(97), random.nextInt(97), random.nextInt(97), threshold);
         for (int changes = random.nextInt(6); changes > 0; changes--) {
             vault.setShare(random.nextInt(8), random.nextInt(97));
@@ -197,13 +260,18 @@ public final class RunsTest {
 
     /** Tries each polynomial of the form, and so needs no division at all. */
     private static void checkAllPolynomials(ShareVault vault, int threshold) {
+        int[][] points = new int[vault.presentedCount()][];
+        for (int place = 0; place < points.length; place++) {
+            int holder = vault.presentedAt(place);
+            points[place] = new int[] {holder + 1, vault.share(holder)};
+        }
         int most = 0;
         for (int first = 0; first < (threshold > 1 ? 97 : 1); first++) {
             for (int second = 0; second < (threshold > 2 ? 97 : 1); second++) {
                 for (int secret = 0; secret < 97; secret++) {
                     int[] polynomial = {secret, first, second};
-                    most = Math.max(most, countOn(vault, polynomial, vault.presentedCount()));
-                    if (countOn(vault, polynomial, threshold) == threshold) {
+                    most = Math.max(most, countOn(points, polynomial, points.length));
+                    if (countOn(points, polynomial, threshold) == threshold) {
                         checkTold(vault, polynomial);
                     }
                 }
@@ -211,7 +279,7 @@ public final class RunsTest {
         }
         Check.due("mostAgreeing", vault.mostAgreeing(), most);
         Check.due("mostAgreeingBySets", vault.mostAgreeingBySets(), most);
-        Check.due("doAgree", vault.doAgree(), most == vault.presentedCount());
+        Check.due("doAgree", vault.doAgree(), most == points.length);
     }
 
     private static void checkTold(ShareVault vault, int[] polynomial) {
@@ -222,11 +290,10 @@ public final class RunsTest {
         }
     }
 
-    private static int countOn(ShareVault vault, int[] polynomial, int places) {
+    private static int countOn(int[][] points, int[] polynomial, int places) {
         int count = 0;
         for (int place = 0; place < places; place++) {
-            int holder = vault.presentedAt(place);
-            if (vault.share(holder) == valueOf(polynomial, holder + 1)) {
+            if (points[place][1] == valueOf(polynomial, points[place][0])) {
                 count++;
             }
         }
